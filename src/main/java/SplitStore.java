@@ -18,7 +18,7 @@ public final class SplitStore {
 
     private static final int IDLE = 0, ENTER = 1, SEEK_BUCKET = 2, LOAD_START = 3, LOAD_CUR = 4, COMPARE = 5;
     private static final int UNLINK_MARKED = 6, PREPARE = 7, LINK = 8, SET_BUCKET = 9;
-    private static final int MARK = 10, UNLINK_OWN = 11, GIVE_BACK = 12, GROW = 13;
+    private static final int MARK = 10, UNLINK_REMOVED = 11, GIVE_BACK = 12, GROW = 13;
 
     private final Node[] nodes = new Node[NODES];
     private final Worker[] workers = new Worker[PROCESSES];
@@ -149,7 +149,7 @@ public final class SplitStore {
             case LINK: link(w); break;
             case SET_BUCKET: setBucket(w); break;
             case MARK: mark(w); break;
-            case UNLINK_OWN: unlinkOwn(w); break;
+            case UNLINK_REMOVED: unlinkRemoved(w); break;
             case GIVE_BACK: giveBack(w); break;
             case GROW: grow(w); break;
             default: break;
@@ -220,26 +220,17 @@ public final class SplitStore {
 
     private void searchOver(Worker w, boolean found) {
         if (!w.stack.isEmpty()) {
-            if (found) {
-                w.bucketNode = w.cur;
-            }
+            // where nothing was found, the node that is linked later takes its place
+            w.bucketNode = w.cur;
             w.place = found ? SET_BUCKET : PREPARE;
         } else if (w.cleans) {
             w.place = GIVE_BACK;
-        } else {
-            keySearchOver(w, found);
-        }
-    }
-
-    private void keySearchOver(Worker w, boolean found) {
-        if (w.operation == FIND) {
+        } else if (w.operation == FIND) {
             end(w, found ? valueOf(w.cur) : NONE);
+        } else if (w.operation == INSERT && found) {
+            end(w, 0);
         } else if (w.operation == INSERT) {
-            if (found) {
-                end(w, 0);
-            } else {
-                w.place = PREPARE;
-            }
+            w.place = PREPARE;
         } else if (found) {
             w.place = MARK;
         } else {
@@ -300,13 +291,13 @@ public final class SplitStore {
         if (change(w.cur, w.nxt, w.nxt, true)) {
             count--;
             w.answer = valueOf(w.cur);
-            w.place = UNLINK_OWN;
+            w.place = UNLINK_REMOVED;
         } else {
             w.place = LOAD_START;
         }
     }
 
-    private void unlinkOwn(Worker w) {
+    private void unlinkRemoved(Worker w) {
         if (change(w.prev, w.cur, w.nxt, false)) {
             retire(w, w.cur);
             w.place = GIVE_BACK;
@@ -320,11 +311,14 @@ public final class SplitStore {
         int kept = 0;
         for (int i = 0; i < w.row.length; i++) {
             int n = w.row.at(i);
-            if (canBeReached(n)) {
+            if (!isNode(n)) {
+                continue;
+            }
+            if (canBeReached(nodes[n])) {
                 w.row.put(kept, n);
                 kept++;
             } else {
-                free(n);
+                nodes[n].state = FREE;
             }
         }
         w.row.cutTo(kept);
@@ -356,7 +350,7 @@ public final class SplitStore {
     }
 
     private boolean change(int n, int from, int to, boolean marked) {
-        if (!isNode(n) || !leadsTo(n, from)) {
+        if (!leadsTo(n, from)) {
             return false;
         }
         nodes[n].pointTo(to, marked);
@@ -385,23 +379,16 @@ public final class SplitStore {
     }
 
     private void freeOwn(Worker w) {
-        free(w.own);
+        if (isNode(w.own)) {
+            nodes[w.own].state = FREE;
+        }
         w.own = NONE;
     }
 
-    private void free(int n) {
-        if (isNode(n)) {
-            nodes[n].state = FREE;
-        }
-    }
-
-    private boolean canBeReached(int n) {
-        if (!isNode(n)) {
-            return false;
-        }
+    private boolean canBeReached(Node n) {
         for (int p = 0; p < PROCESSES; p++) {
             Worker w = workers[p];
-            if (w.place != IDLE && w.low <= nodes[n].died && nodes[n].born <= w.high) {
+            if (w.place != IDLE && w.low <= n.died && n.born <= w.high) {
                 return true;
             }
         }

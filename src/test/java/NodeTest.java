@@ -1,0 +1,83 @@
+/** Promise 7: the numbers of a node from its birth until it is taken again. */
+final class NodeTest {
+    private static final int K10 = Check.keyAt(10), K20 = Check.keyAt(20), K30 = Check.keyAt(30);
+
+    public static void main(String[] args) {
+        aLife();
+        freeWithoutHavingDied();
+        orders();
+        noSuchThing();
+        Check.finish();
+    }
+
+    private static void all(String what, SplitStore x, int n, int... due) {
+        for (int i = 0; i < due.length; i++) {
+            Check.same(what + ": node(" + n + ", " + i + ")", x.node(n, i), due[i]);
+        }
+    }
+
+    private static void aLife() {
+        SplitStore x = new SplitStore();
+        Check.whole("insert", x, 0, Check.INSERT, K10, 100, 1);
+        Check.whole("insert", x, 0, Check.INSERT, K20, 200, 1);
+        all("bucket 0", x, 0, 1, 0, 1, 0, Check.NONE, 0, 1, 0);
+        all("there", x, 1, 1, 21, 2, 0, K10, 100, 1, 0);
+        all("there, the last", x, 2, 1, 41, Check.NONE, 0, K20, 200, 1, 0);
+        x.start(0, Check.REMOVE, K10, 0);
+        x.run(0, 6);
+        all("marked", x, 1, 1, 21, 2, 1, K10, 100, 1, 0);
+        x.step(0);
+        all("retired", x, 1, 2, 21, 2, 1, K10, 100, 1, 1);
+        x.run(0, 1000);
+        all("retired still", x, 1, 2, 21, 2, 1, K10, 100, 1, 1);
+        Check.whole("remove", x, 0, Check.REMOVE, K20, 0, 200);
+        all("free, as it was", x, 1, 0, 21, 2, 1, K10, 100, 1, 1);
+        all("retired, the last", x, 2, 2, 41, Check.NONE, 1, K20, 200, 1, 2);
+        Check.whole("insert", x, 0, Check.INSERT, K30, 300, 1);
+        all("there again, with nothing of its first life", x, 1, 1, 61, Check.NONE, 0, K30, 300, 3, 0);
+        all("never used", x, 3, 0, 0, Check.NONE, 0, Check.NONE, 0, 0, 0);
+    }
+
+    private static void freeWithoutHavingDied() {
+        SplitStore x = new SplitStore();
+        x.start(1, Check.INSERT, K10, 11);
+        x.run(1, 5);
+        all("its own", x, 1, 1, 21, Check.NONE, 0, K10, 11, 1, 0);
+        Check.whole("insert", x, 0, Check.INSERT, K10, 12, 1);
+        x.run(1, 1000);
+        Check.same("too late", x.result(1), 0);
+        all("free", x, 1, 0, 21, Check.NONE, 0, K10, 11, 1, 0);
+        Check.same("free", x.total(Check.FREE), 62);
+        Check.whole("the lowest free one is taken", x, 1, Check.INSERT, K20, 20, 1);
+        all("taken", x, 1, 1, 41, Check.NONE, 0, K20, 20, 1, 0);
+    }
+
+    /** The orders of some keys worked out by hand from key * 167 modulo 256. */
+    private static void orders() {
+        int[] keys = {0, 1, 2, 5, 20, 128, 255};
+        int[] hashes = {0, 167, 78, 67, 12, 128, 89};
+        int[] turned = {0, 229, 114, 194, 48, 1, 154};
+        for (int i = 0; i < keys.length; i++) {
+            Check.same("hash", keys[i] * 167 % 256, hashes[i]);
+            SplitStore x = new SplitStore();
+            Check.whole("insert", x, 0, Check.INSERT, keys[i], 9, 1);
+            Check.same("order of key " + keys[i], x.node(1, Check.ORDER), 2 * turned[i] + 1);
+            Check.same("key", x.node(1, Check.KEY), keys[i]);
+        }
+    }
+
+    private static void noSuchThing() {
+        SplitStore x = new SplitStore();
+        int[] wrong = {-1, 64, Integer.MIN_VALUE, Integer.MAX_VALUE};
+        for (int n : wrong) {
+            Check.missing("node(" + n + ", 0)", () -> x.node(n, 0));
+            Check.missing("node(" + n + ", 8)", () -> x.node(n, 8));
+        }
+        int[] whats = {-1, 8, Integer.MIN_VALUE, Integer.MAX_VALUE};
+        for (int what : whats) {
+            Check.missing("node(0, " + what + ")", () -> x.node(0, what));
+            Check.missing("node(63, " + what + ")", () -> x.node(63, what));
+        }
+        Check.same("the last node", x.node(63, Check.STATE), 0);
+    }
+}
