@@ -18,10 +18,7 @@ final class BucketTest {
     }
 
     private static void comesWithItsFirstUse() {
-        SplitStore x = new SplitStore();
-        for (int turn = 0; turn < 3; turn++) {
-            Check.whole("fill", x, 0, Check.INSERT, Check.keyAt(turn), turn, 1);
-        }
+        SplitStore x = Check.storeWith(3);
         Check.same("size", x.total(Check.SIZE), 2);
         Check.same("a doubled size makes no node", x.bucket(1), Check.NONE);
         Check.whole("a find makes it", x, 0, Check.FIND, Check.keyOf(1), 0, Check.NONE);
@@ -32,11 +29,7 @@ final class BucketTest {
 
     /** One key for each hash 0 .. 15, behind seventeen that make the size 16. */
     private static void allSixteen() {
-        SplitStore x = new SplitStore();
-        for (int turn = 0; turn < 17; turn++) {
-            x.start(0, Check.INSERT, Check.keyAt(turn), turn);
-            x.run(0, 1000);
-        }
+        SplitStore x = Check.storeWith(17);
         for (int b = 0; b < 16; b++) {
             x.start(1, Check.INSERT, Check.keyOf(b), b);
             x.run(1, 1000);

@@ -1,4 +1,7 @@
+import java.util.ArrayList;
+import java.util.List;
 import java.util.NoSuchElementException;
+import java.util.function.Supplier;
 
 /** Counts the answers that are not as due, and the small moves that the tests share. */
 final class Check {
@@ -54,6 +57,56 @@ final class Check {
 
     static void begin(String what, SplitStore x, int process, int operation, int key, int value) {
         holds(what + ": start of process " + process, x.start(process, operation, key, value));
+    }
+
+    /** Nodes 1, 2, .. hold the keys in the order in which they are named, with their turn as value. */
+    static SplitStore storeOf(int... turns) {
+        SplitStore x = new SplitStore();
+        for (int turn : turns) {
+            whole("insert at " + turn, x, 0, INSERT, keyAt(turn), turn, 1);
+        }
+        return x;
+    }
+
+    /** As many keys as are said, at most 17, all of which come to bucket 0: no other bucket has a node then. */
+    static SplitStore storeWith(int keys) {
+        SplitStore x = new SplitStore();
+        for (int turn = 0; turn < keys; turn++) {
+            x.start(0, INSERT, keyAt(turn), turn);
+            x.run(0, 1000);
+        }
+        same("count", x.total(COUNT), keys);
+        return x;
+    }
+
+    /** Keys 0, 4, 8, .. with values 0, 1, 2, ..: with 60 of them and the buckets 0, 4, 8 and 12 no node is free. */
+    static SplitStore storeOfFours(int keys) {
+        SplitStore x = new SplitStore();
+        for (int i = 0; i < keys; i++) {
+            x.start(0, INSERT, 4 * i, i);
+            x.run(0, 1000);
+        }
+        same("count", x.total(COUNT), keys);
+        return x;
+    }
+
+    /** All that the questions answer of the object that the maker makes: made more than once, for it bears 512 calls. */
+    static List<Integer> stateOf(Supplier<SplitStore> maker) {
+        List<Integer> state = new ArrayList<>();
+        for (int half = 0; half < 2; half++) {
+            SplitStore x = maker.get();
+            for (int n = 32 * half; n < 32 * half + 32; n++) {
+                for (int what = 0; what < 8; what++) state.add(x.node(n, what));
+            }
+        }
+        SplitStore x = maker.get();
+        for (int p = 0; p < 4; p++) {
+            for (int what = 0; what < 9; what++) state.add(x.process(p, what));
+            state.add(x.result(p));
+        }
+        for (int b = 0; b < 16; b++) state.add(x.bucket(b));
+        for (int what = 0; what < 5; what++) state.add(x.total(what));
+        return state;
     }
 
     /** The one key whose order is 2 * turn + 1. */

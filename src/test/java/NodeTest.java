@@ -5,6 +5,8 @@ final class NodeTest {
     public static void main(String[] args) {
         aLife();
         freeWithoutHavingDied();
+        aBucketsNodeThatBecameFree();
+        asItWasWhileTheListGoesOn();
         orders();
         noSuchThing();
         Check.finish();
@@ -50,6 +52,32 @@ final class NodeTest {
         Check.same("free", x.total(Check.FREE), 62);
         Check.whole("the lowest free one is taken", x, 1, Check.INSERT, K20, 20, 1);
         all("taken", x, 1, 1, 41, Check.NONE, 0, K20, 20, 1, 0);
+    }
+
+    /** Two make a node for bucket 1; that of the later one becomes free at place 9. */
+    private static void aBucketsNodeThatBecameFree() {
+        SplitStore x = Check.storeOf(10, 20, 200);
+        x.start(1, Check.FIND, Check.keyOf(1), 0);
+        x.run(1, 11);
+        Check.same("place", x.process(1, Check.PLACE), 8);
+        Check.whole("the other one", x, 0, Check.FIND, Check.keyOf(1), 0, Check.NONE);
+        all("its own", x, 4, 1, 256, 3, 0, Check.NONE, 0, 1, 0);
+        x.run(1, 1000);
+        all("free", x, 4, 0, 256, 3, 0, Check.NONE, 0, 1, 0);
+        all("the bucket's", x, x.bucket(1), 1, 256, 3, 0, Check.NONE, 0, 1, 0);
+    }
+
+    /** Node 1 led to node 2 when it was taken out; that it does still, though node 2 lives on as another key. */
+    private static void asItWasWhileTheListGoesOn() {
+        SplitStore x = Check.storeOf(10, 20, 30);
+        Check.whole("remove", x, 0, Check.REMOVE, K10, 0, 10);
+        Check.whole("remove", x, 0, Check.REMOVE, K20, 0, 20);
+        Check.whole("insert", x, 0, Check.INSERT, Check.keyAt(40), 40, 1);
+        all("taken again", x, 1, 1, 81, Check.NONE, 0, Check.keyAt(40), 40, 3, 0);
+        Check.whole("remove", x, 0, Check.REMOVE, K30, 0, 30);
+        all("free", x, 2, 0, 41, 3, 1, K20, 20, 1, 2);
+        Check.whole("insert", x, 0, Check.INSERT, K10, 11, 1);
+        all("taken again, with next and mark of its own", x, 2, 1, 21, 1, 0, K10, 11, 4, 0);
     }
 
     /** The orders of some keys worked out by hand from key * 167 modulo 256. */

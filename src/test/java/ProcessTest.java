@@ -57,10 +57,7 @@ final class ProcessTest {
     }
 
     private static void theStack() {
-        SplitStore x = new SplitStore();
-        for (int turn = 0; turn < 5; turn++) {
-            Check.whole("fill", x, 0, Check.INSERT, Check.keyAt(turn), turn, 1);
-        }
+        SplitStore x = Check.storeWith(5);
         Check.same("size", x.total(Check.SIZE), 4);
         x.start(3, Check.FIND, Check.keyOf(3), 0);
         stepTo(x, 3, 2, 1, 1, 0, 0);
@@ -82,11 +79,7 @@ final class ProcessTest {
 
     /** An idle process has no stack and no nodes, even where its operation ended with buckets on the stack. */
     private static void idleBehindFull() {
-        SplitStore x = new SplitStore();
-        for (int i = 0; i < 60; i++) {
-            x.start(0, Check.INSERT, 4 * i, i);
-            x.run(0, 1000);
-        }
+        SplitStore x = Check.storeOfFours(60);
         x.start(1, Check.FIND, 1, 0);
         x.run(1, 5);
         Check.same("stack of 7, 3, 1", x.process(1, Check.STACK), 3);

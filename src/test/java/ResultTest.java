@@ -54,26 +54,12 @@ final class ResultTest {
         }
     }
 
-    /** Sixty keys of the buckets 0, 4, 8 and 12 and the nodes of these take all nodes. */
     private static void whenFull() {
-        SplitStore x = new SplitStore();
-        for (int i = 0; i < 60; i++) {
-            x.start(0, Check.INSERT, 4 * i, i);
-            x.run(0, 1000);
-            Check.same("insert " + i, x.result(0), 1);
-        }
-        Check.same("free", x.total(Check.FREE), 0);
+        SplitStore x = Check.storeOfFours(60);
         Check.whole("insert without a free node", x, 1, Check.INSERT, 240, 1, Check.FULL);
         Check.whole("find whose bucket finds no free node", x, 2, Check.FIND, 1, 0, Check.FULL);
-        Check.whole("remove whose bucket finds no free node", x, 2, Check.REMOVE, 1, 0, Check.FULL);
-        Check.whole("insert of a key that is there", x, 1, Check.INSERT, 8, 1, 0);
-        Check.whole("find of a key that is there", x, 2, Check.FIND, 8, 1, 2);
-        Check.whole("find of a key that is not", x, 2, Check.FIND, 240, 1, Check.NONE);
-        Check.same("count", x.total(Check.COUNT), 60);
-        Check.whole("remove", x, 0, Check.REMOVE, 8, 0, 2);
-        Check.whole("a retired node is not free", x, 1, Check.INSERT, 240, 1, Check.FULL);
-        Check.whole("remove", x, 0, Check.REMOVE, 12, 0, 3);
-        Check.whole("now there is a free one", x, 1, Check.INSERT, 240, 1, 1);
+        Check.same("the other's result stays", x.result(1), Check.FULL);
+        Check.whole("find", x, 1, Check.FIND, 8, 0, 2);
     }
 
     private static void edgeValues() {

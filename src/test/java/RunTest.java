@@ -4,6 +4,8 @@ final class RunTest {
         stopsWhenIdle();
         stopsAtN();
         wrongNumbers();
+        stepsThatStayCountToo();
+        longestAndShortest();
         doesWhatStepsDo();
         Check.finish();
     }
@@ -47,6 +49,32 @@ final class RunTest {
             Check.same("run(" + processes[i] + ", 0)", x.run(processes[i], 0), Check.NONE);
         }
         Check.same("place", x.process(0, Check.PLACE), 1);
+    }
+
+    private static void stepsThatStayCountToo() {
+        SplitStore x = Check.storeOf(10, 20);
+        x.start(1, Check.FIND, Check.keyAt(20), 0);
+        x.run(1, 2);
+        Check.whole("the era goes on", x, 0, Check.REMOVE, Check.keyAt(10), 0, 10);
+        Check.same("one stays at place 3", x.run(1, 1), 1);
+        Check.same("place", x.process(1, Check.PLACE), 3);
+        Check.same("then three to the end", x.run(1, 1000), 3);
+        Check.same("found", x.result(1), 20);
+    }
+
+    /** Behind 55 keys of the first buckets the first key of bucket 15 takes the longest way; a run of 1000 ends it. */
+    private static void longestAndShortest() {
+        SplitStore x = Check.storeOfFours(55);
+        x.start(1, Check.INSERT, Check.keyOf(15), 15);
+        int first = x.run(1, 100);
+        Check.same("as many as are asked for", first, 100);
+        Check.holds("it is not at its end", x.process(1, Check.PLACE) != 0);
+        int second = x.run(1, 1000);
+        Check.holds("fewer than are asked for", second > 0 && second < 1000);
+        Check.same("inserted", x.result(1), 1);
+        x.start(2, Check.FIND, Check.keyOf(15), 0);
+        Check.same("now it has its bucket", x.run(2, 1000), 5);
+        Check.same("found", x.result(2), 15);
     }
 
     private static void doesWhatStepsDo() {

@@ -20,16 +20,9 @@ final class StepTest {
         place12WithOtherProcesses();
         place12OfARow();
         place13();
+        place13OfThree();
+        place13AtTheLargestSize();
         Check.finish();
-    }
-
-    /** Nodes 1, 2, .. hold the keys in the order in which they are named, with their turn as value. */
-    private static SplitStore storeOf(int... turns) {
-        SplitStore x = new SplitStore();
-        for (int turn : turns) {
-            Check.whole("insert at " + turn, x, 0, Check.INSERT, Check.keyAt(turn), turn, 1);
-        }
-        return x;
     }
 
     private static void noStep() {
@@ -42,25 +35,30 @@ final class StepTest {
     }
 
     private static void place1() {
-        SplitStore x = storeOf(10);
+        SplitStore x = Check.storeOf(10);
         Check.whole("remove", x, 0, Check.REMOVE, K10, 0, 10);
         Check.begin("place 1", x, 1, Check.FIND, K10, 0);
         Check.steps("place 1", x, 1, 2);
         Check.same("low", x.process(1, Check.LOW), 2);
         Check.same("high", x.process(1, Check.HIGH), 2);
 
-        SplitStore y = storeOf(10, 20);
+        SplitStore y = Check.storeOf(10, 20);
         Check.begin("the size when it steps counts", y, 1, Check.FIND, Check.keyOf(1), 0);
         Check.whole("third key", y, 0, Check.INSERT, K30, 30, 1);
         Check.steps("the size when it steps counts", y, 1, 2, 2, 3);
         Check.same("stack", y.process(1, Check.STACK), 1);
+
+        SplitStore z = Check.storeOf(10, 20);
+        Check.begin("a later size does not count", z, 1, Check.FIND, Check.keyOf(1), 0);
+        Check.steps("a later size does not count", z, 1, 2);
+        Check.whole("third key", z, 0, Check.INSERT, K30, 30, 1);
+        Check.same("size", z.total(Check.SIZE), 2);
+        Check.steps("a later size does not count", z, 1, 3);
+        Check.same("stack", z.process(1, Check.STACK), 0);
     }
 
     private static void place2() {
-        SplitStore x = new SplitStore();
-        for (int turn = 0; turn < 17; turn++) {
-            Check.whole("fill", x, 0, Check.INSERT, Check.keyAt(turn), turn, 1);
-        }
+        SplitStore x = Check.storeWith(17);
         Check.same("size", x.total(Check.SIZE), 16);
         Check.begin("fifteen", x, 1, Check.FIND, Check.keyOf(15), 0);
         Check.steps("fifteen", x, 1, 2, 2, 2, 2, 2, 3);
@@ -84,7 +82,7 @@ final class StepTest {
     }
 
     private static void place3() {
-        SplitStore x = storeOf(10, 20);
+        SplitStore x = Check.storeOf(10, 20);
         Check.begin("place 3", x, 1, Check.FIND, K20, 0);
         Check.steps("place 3", x, 1, 2, 3);
         Check.whole("remove", x, 0, Check.REMOVE, K10, 0, 10);
@@ -99,7 +97,7 @@ final class StepTest {
     }
 
     private static void place4() {
-        SplitStore x = storeOf(10, 20);
+        SplitStore x = Check.storeOf(10, 20);
         Check.begin("place 4", x, 1, Check.FIND, K20, 0);
         Check.steps("place 4", x, 1, 2, 3, 4);
         Check.whole("remove", x, 0, Check.REMOVE, K20, 0, 20);
@@ -114,14 +112,14 @@ final class StepTest {
     }
 
     private static void place5() {
-        SplitStore x = storeOf(20);
+        SplitStore x = Check.storeOf(20);
         Check.begin("prev leads elsewhere", x, 1, Check.FIND, K20, 0);
         Check.steps("prev leads elsewhere", x, 1, 2, 3, 4, 5);
         Check.whole("insert before", x, 0, Check.INSERT, K10, 10, 1);
         Check.steps("prev leads elsewhere", x, 1, 3, 4, 5, 4, 5, 0);
         Check.same("found", x.result(1), 20);
 
-        SplitStore y = storeOf(10, 20);
+        SplitStore y = Check.storeOf(10, 20);
         Check.begin("prev has a mark", y, 1, Check.FIND, K20, 0);
         Check.steps("prev has a mark", y, 1, 2, 3, 4, 5, 4, 5);
         Check.same("prev", y.process(1, Check.PREV), 1);
@@ -130,7 +128,7 @@ final class StepTest {
         Check.steps("the marker", y, 0, 2, 3, 4, 5, 10, 11);
         Check.steps("prev has a mark", y, 1, 3, 4, 5, 6);
 
-        SplitStore z = storeOf(20);
+        SplitStore z = Check.storeOf(20);
         Check.begin("above the wanted one", z, 1, Check.FIND, K10, 0);
         Check.steps("above the wanted one", z, 1, 2, 3, 4, 5, 0);
         Check.same("not found", z.result(1), Check.NONE);
@@ -140,7 +138,7 @@ final class StepTest {
     }
 
     private static void place5ReadsTheMarkOfTheLoad() {
-        SplitStore x = storeOf(20);
+        SplitStore x = Check.storeOf(20);
         Check.begin("loaded before the mark", x, 1, Check.FIND, K20, 0);
         Check.steps("loaded before the mark", x, 1, 2, 3, 4, 5);
         Check.begin("the marker", x, 0, Check.REMOVE, K20, 0);
@@ -150,7 +148,7 @@ final class StepTest {
     }
 
     private static void place6() {
-        SplitStore x = storeOf(10, 20);
+        SplitStore x = Check.storeOf(10, 20);
         Check.begin("the marker", x, 0, Check.REMOVE, K10, 0);
         Check.steps("the marker", x, 0, 2, 3, 4, 5, 10, 11);
         Check.begin("the helper", x, 1, Check.FIND, K20, 0);
@@ -175,7 +173,7 @@ final class StepTest {
     }
 
     private static void place7() {
-        SplitStore x = storeOf(10, 30);
+        SplitStore x = Check.storeOf(10, 30);
         Check.begin("place 7", x, 1, Check.INSERT, K20, 777);
         Check.steps("place 7", x, 1, 2, 3, 4, 5, 4, 5, 7);
         Check.same("no own node yet", x.process(1, Check.OWN), Check.NONE);
@@ -188,7 +186,7 @@ final class StepTest {
         Check.same("no one leads to it yet", x.node(1, Check.NEXT), 2);
         Check.same("count", x.total(Check.COUNT), 2);
 
-        SplitStore y = storeOf(30);
+        SplitStore y = Check.storeOf(30);
         Check.begin("the own node is kept", y, 1, Check.INSERT, K20, 777);
         Check.steps("the own node is kept", y, 1, 2, 3, 4, 5, 7, 8);
         Check.whole("insert", y, 0, Check.INSERT, K10, 10, 1);
@@ -203,7 +201,7 @@ final class StepTest {
     }
 
     private static void place8() {
-        SplitStore x = storeOf();
+        SplitStore x = Check.storeOf();
         Check.begin("the later one", x, 1, Check.INSERT, K20, 21);
         Check.steps("the later one", x, 1, 2, 3, 4, 7, 8);
         Check.begin("the earlier one", x, 0, Check.INSERT, K20, 20);
@@ -222,7 +220,7 @@ final class StepTest {
     }
 
     private static void place9() {
-        SplitStore x = storeOf(10, 20, 30);
+        SplitStore x = Check.storeOf(10, 20, 30);
         int odd = Check.keyOf(1);
         int[] toLink = {2, 2, 3, 4, 5, 4, 5, 4, 5, 4, 7, 8};
         Check.begin("the first of a bucket", x, 1, Check.INSERT, odd, 1);
@@ -254,7 +252,7 @@ final class StepTest {
     }
 
     private static void place10() {
-        SplitStore x = storeOf(10);
+        SplitStore x = Check.storeOf(10);
         Check.begin("a node came behind", x, 1, Check.REMOVE, K10, 0);
         Check.steps("a node came behind", x, 1, 2, 3, 4, 5, 10);
         Check.whole("insert", x, 0, Check.INSERT, K20, 20, 1);
@@ -269,7 +267,7 @@ final class StepTest {
         Check.steps("a node came behind", x, 1, 12, 0);
         Check.same("its value", x.result(1), 10);
 
-        SplitStore y = storeOf(10);
+        SplitStore y = Check.storeOf(10);
         Check.begin("one of two", y, 1, Check.REMOVE, K10, 0);
         Check.steps("one of two", y, 1, 2, 3, 4, 5, 10);
         Check.begin("two of two", y, 2, Check.REMOVE, K10, 0);
@@ -283,7 +281,7 @@ final class StepTest {
     }
 
     private static void place11() {
-        SplitStore x = storeOf(20);
+        SplitStore x = Check.storeOf(20);
         Check.begin("insert before", x, 2, Check.INSERT, K10, 10);
         Check.steps("insert before", x, 2, 2, 3, 4, 5, 7, 8);
         Check.begin("to clean", x, 1, Check.REMOVE, K20, 0);
@@ -303,7 +301,7 @@ final class StepTest {
         Check.same("row", x.process(1, Check.ROW), 2);
         Check.steps("the next remove is not to clean", x, 1, 0);
 
-        SplitStore y = storeOf(20);
+        SplitStore y = Check.storeOf(20);
         Check.begin("the same key again", y, 1, Check.REMOVE, K20, 0);
         Check.steps("the same key again", y, 1, 2, 3, 4, 5, 10, 11);
         Check.whole("insert", y, 0, Check.INSERT, K20, 21, 1);
@@ -313,7 +311,7 @@ final class StepTest {
     }
 
     private static void place12() {
-        SplitStore x = storeOf(10, 20, 30);
+        SplitStore x = Check.storeOf(10, 20, 30);
         Check.whole("remove", x, 0, Check.REMOVE, K10, 0, 10);
         Check.same("its own eras hold it", x.node(1, Check.STATE), 2);
         Check.same("row", x.process(0, Check.ROW), 1);
@@ -331,13 +329,13 @@ final class StepTest {
 
     /** Node 1 lives 1 .. 1 and node 2 lives 1 .. 2; another process waits with the eras low .. high. */
     private static void place12WithOtherProcesses() {
-        SplitStore x = storeOf(10, 20);
+        SplitStore x = Check.storeOf(10, 20);
         Check.begin("at place 1 it has no eras", x, 3, Check.FIND, K10, 0);
         Check.whole("remove", x, 0, Check.REMOVE, K10, 0, 10);
         Check.whole("remove", x, 0, Check.REMOVE, K20, 0, 20);
         Check.same("at place 1 it holds nothing", x.node(1, Check.STATE), 0);
 
-        SplitStore y = storeOf(10, 20);
+        SplitStore y = Check.storeOf(10, 20);
         Check.begin("low 1", y, 3, Check.FIND, K10, 0);
         Check.steps("low 1", y, 3, 2);
         Check.whole("remove", y, 0, Check.REMOVE, K10, 0, 10);
@@ -345,7 +343,7 @@ final class StepTest {
         Check.same("its low is died", y.node(1, Check.STATE), 2);
         Check.same("row", y.process(0, Check.ROW), 2);
 
-        SplitStore z = storeOf(10, 20);
+        SplitStore z = Check.storeOf(10, 20);
         Check.whole("remove", z, 0, Check.REMOVE, K10, 0, 10);
         Check.begin("low 2", z, 3, Check.FIND, K10, 0);
         Check.steps("low 2", z, 3, 2);
@@ -356,7 +354,7 @@ final class StepTest {
 
     /** The waiting process has low and high 2; nodes that live 2 .. 2 and 1 .. 3 are held, one that lives 4 .. 4 is not. */
     private static void place12OfARow() {
-        SplitStore x = storeOf(10, 20);
+        SplitStore x = Check.storeOf(10, 20);
         Check.whole("remove, era 1", x, 0, Check.REMOVE, K10, 0, 10);
         Check.begin("the waiting one", x, 3, Check.FIND, K10, 0);
         Check.steps("the waiting one", x, 3, 2);
@@ -384,7 +382,7 @@ final class StepTest {
     }
 
     private static void place13() {
-        SplitStore x = storeOf(10, 20);
+        SplitStore x = Check.storeOf(10, 20);
         Check.same("not at twice the size", x.total(Check.SIZE), 1);
         Check.begin("to three", x, 1, Check.INSERT, K30, 30);
         Check.begin("to four", x, 2, Check.INSERT, K40, 40);
@@ -396,11 +394,38 @@ final class StepTest {
         Check.steps("to four", x, 2, 0);
         Check.same("once alone", x.total(Check.SIZE), 2);
 
-        SplitStore y = storeOf(10, 20);
+        SplitStore y = Check.storeOf(10, 20);
         Check.begin("the count then", y, 1, Check.INSERT, K30, 30);
         Check.steps("the count then", y, 1, 2, 3, 4, 5, 4, 5, 4, 7, 8, 13);
         Check.whole("remove", y, 0, Check.REMOVE, K10, 0, 10);
         Check.steps("the count then", y, 1, 0);
         Check.same("size", y.total(Check.SIZE), 1);
+    }
+
+    /** Five keys at size 1: each of the three goes on by one size, as far as there are too many keys for it. */
+    private static void place13OfThree() {
+        SplitStore x = Check.storeOf(10, 20);
+        int[] sizes = {2, 4, 4};
+        for (int p = 1; p < 4; p++) {
+            Check.begin("to 13", x, p, Check.INSERT, Check.keyAt(20 + p), p);
+            while (x.process(p, Check.PLACE) != 13) {
+                x.step(p);
+            }
+        }
+        Check.same("count", x.total(Check.COUNT), 5);
+        Check.same("size", x.total(Check.SIZE), 1);
+        for (int p = 1; p < 4; p++) {
+            Check.steps("from 13", x, p, 0);
+            Check.same("size behind " + p, x.total(Check.SIZE), sizes[p - 1]);
+            Check.same("result", x.result(p), 1);
+        }
+    }
+
+    private static void place13AtTheLargestSize() {
+        SplitStore x = Check.storeOfFours(32);
+        Check.same("size", x.total(Check.SIZE), 16);
+        Check.whole("more than two keys a bucket", x, 1, Check.INSERT, 128, 1, 1);
+        Check.same("count", x.total(Check.COUNT), 33);
+        Check.same("size", x.total(Check.SIZE), 16);
     }
 }

@@ -35,7 +35,7 @@ final class StoreTest {
 
     private static void togetherInOrder(Random random, String what) {
         SplitStore x = new SplitStore();
-        for (int i = 0; i < 200; i++) {
+        for (int i = 0; i < 150; i++) {
             int p = random.nextInt(4);
             if (!x.start(p, random.nextInt(3), random.nextInt(20), i)) {
                 x.run(p, random.nextInt(9));
