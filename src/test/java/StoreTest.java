@@ -4,11 +4,24 @@ import java.util.TreeMap;
 /** What the promises come to: alone, an operation does what a map does; together, the list stays in order. */
 final class StoreTest {
     public static void main(String[] args) {
+        exampleOfTheReadme();
         for (int seed = 0; seed < 200; seed++) {
             aloneLikeAMap(new Random(seed), "alone " + seed);
             togetherInOrder(new Random(seed), "together " + seed);
         }
         Check.finish();
+    }
+
+    private static void exampleOfTheReadme() {
+        SplitStore store = new SplitStore();
+        Check.holds("start(0, 1, 5, 50)", store.start(0, 1, 5, 50));
+        Check.holds("start(1, 0, 5, 0)", store.start(1, 0, 5, 0));
+        Check.same("step(0)", store.step(0), 2);
+        Check.same("run(0, 1000)", store.run(0, 1000), 6);
+        Check.same("run(1, 1000)", store.run(1, 1000), 5);
+        Check.same("result(0)", store.result(0), 1);
+        Check.same("result(1)", store.result(1), 50);
+        Check.same("total(1)", store.total(1), 1);
     }
 
     private static void aloneLikeAMap(Random random, String what) {
